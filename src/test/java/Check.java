@@ -1,0 +1,21 @@
+/** Counts the answers that are not as due, and ends the program with 1 if there are any. */
+final class Check {
+    private int right = 0;
+    private int wrong = 0;
+
+    void due(String call, int got, int want) {
+        if (got == want) {
+            right++;
+        } else {
+            wrong++;
+            System.out.println(call + " answered " + got + ", due is " + want);
+        }
+    }
+
+    void end() {
+        System.out.println(right + " answers are as due, " + wrong + " are not");
+        if (wrong != 0) {
+            System.exit(1);
+        }
+    }
+}
