@@ -4,7 +4,11 @@ final class Check {
     private int wrong = 0;
 
     void due(String call, int got, int want) {
-        if (got == want) {
+        due(call, Integer.toString(got), Integer.toString(want));
+    }
+
+    void due(String call, String got, String want) {
+        if (got.equals(want)) {
             right++;
         } else {
             wrong++;
