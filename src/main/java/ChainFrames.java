@@ -871,7 +871,6 @@ public final class ChainFrames {
         private final Kinds kinds;
         private final Step step;
         private final Frame raisedFrame = new Frame();
-        private final int[] merged = new int[LOCALS];
 
         Worker(Kinds kinds) {
             this.kinds = kinds;
@@ -963,8 +962,8 @@ public final class ChainFrames {
             if (!canMeet(there, that)) {
                 return false;
             }
-            boolean pileChanged = mergePile(there, that);
-            boolean localsChanged = mergeLocals(there.locals, that.locals);
+            boolean pileChanged = mergeRow(there.pile, that.pile, there.depth);
+            boolean localsChanged = mergeRow(there.locals, that.locals, LOCALS);
             if (pileChanged || localsChanged) {
                 work.waiting[place] = true;
             }
@@ -983,34 +982,18 @@ public final class ChainFrames {
             return true;
         }
 
-        private boolean mergePile(Frame there, Frame that) {
+        /**
+         * Halves of a LONG are looked at like others: the JOIN is 2 or 3 only where both FRAMES have
+         * it, and then both have its other half too, so that no half is ever left alone.
+         */
+        private boolean mergeRow(int[] there, int[] that, int length) {
             boolean changed = false;
-            for (int i = 0; i < there.depth; i++) {
-                int kind = kinds.merge(there.pile[i], that.pile[i]);
-                changed = changed || kind != there.pile[i];
-                there.pile[i] = kind;
-            }
-            return changed;
-        }
-
-        private boolean mergeLocals(int[] there, int[] that) {
-            for (int i = 0; i < LOCALS; i++) {
-                merged[i] = kinds.merge(there[i], that[i]);
-            }
-            boolean changed = false;
-            for (int i = 0; i < LOCALS; i++) {
-                int kind = isLoneHalf(i) ? NOTHING : merged[i];
+            for (int i = 0; i < length; i++) {
+                int kind = kinds.merge(there[i], that[i]);
                 changed = changed || kind != there[i];
                 there[i] = kind;
             }
             return changed;
-        }
-
-        private boolean isLoneHalf(int i) {
-            if (merged[i] == LONG) {
-                return i + 1 >= LOCALS || merged[i + 1] != HALF;
-            }
-            return merged[i] == HALF && (i == 0 || merged[i - 1] != LONG);
         }
     }
 

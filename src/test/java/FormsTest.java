@@ -53,6 +53,13 @@ public final class FormsTest {
         form("a handler, of one place with a frame", handler, 3, 1);
         Program wide = new Program(0).ops(op(12, 2), op(23), op(23), op(23)).guard(1, 3, 3, 0);
         form("a guard whose first place has no frame", wide, 3, 1);
+        wide.x.method(0);
+        wide.x.op(1, 0, 0, 0);
+        wide.x.op(1, 23, 0, 0);
+        wide.x.op(1, 23, 0, 0);
+        wide.x.compute(1);
+        check.due("of the first method", wide.x.form(0, 2), 0);
+        check.due("of another method", wide.x.form(1, 2), NONE);
     }
 
     /** The OPS, then a jump to a place that returns: its FORM. */

@@ -28,6 +28,8 @@ public final class MethodsTest {
         check.due("a seventh method", x.method(0), FULL);
         check.due("BAD before FULL", x.method(3), BAD);
         check.due("methods", x.count(1, 0), 6);
+        check.due("of the sixth", x.count(2, 5), 0);
+        check.due("of a seventh", x.count(2, 6), BAD);
         check.due("class 2", x.cls(0), 2);
         check.due("a new class is a result, but FULL", x.method(12), FULL);
     }
@@ -220,6 +222,9 @@ public final class MethodsTest {
         check.due("guard", p.x.guard(0, 0, 1, 0, 0), FULL);
         check.due("argument", p.x.argument(0, 1), FULL);
         check.due("FULL undoes nothing", p.x.told(0, 1), 1);
+        check.due("the last place of a full method", p.x.height(0, 39), NONE);
+        check.due("its locals", p.x.told(0, 3), 8);
+        check.due("its form", p.x.form(0, 39), NONE);
     }
 
     private static void askedAfterUndone(ChainFrames x) {

@@ -166,6 +166,7 @@ public final class OpsTest {
         leaves("13 | 2 3", of(13), op(6, 0), op(16, 2, 2));
         leaves("12 | 5", of(12), op(6, 0), op(16, 5, 5));
         leaves("42 | ", of(42), op(6, 0), op(16, 0, 0));
+        leaves("40 | ", of(40), op(6, 0), op(16, 0, 0));
         leaves("5 | ", of(5), op(6, 0), op(16, 0, 0));
         leaves("15 | ", of(15), op(6, 0), op(16, 0, 0));
         leaves(" | 45", of(), op(17), op(16, 3, 45));

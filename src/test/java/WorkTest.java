@@ -157,6 +157,9 @@ public final class WorkTest {
         Program without = new Program(0).ops(op(0), op(3, 0), op(23), op(24), op(23)).guard(0, 2, 3, 1);
         ends("without to", without, 0, NONE, 5);
         check.due("locals of from .. to - 1", without.locals(3), "");
+        Program to = new Program(0, 1).ops(op(17), op(7, 0), op(23), op(24), op(23)).guard(0, 2, 3, 1);
+        ends("without to", to, 0, NONE, 5);
+        check.due("locals of 0, 1", to.locals(3), "1");
         Program first = new Program(0).ops(op(0), op(3, 0), op(23), op(24), op(23)).guard(2, 3, 3, 1);
         first.compute();
         check.due("locals of 2", first.locals(3), "1");
@@ -185,6 +188,9 @@ public final class WorkTest {
         check.due("they are 0 there", p.locals(1), "");
         check.due("and stay here", p.locals(7), "103 1");
         check.due("only the raised thing", p.pile(1), "11");
+        Program q = new Program(0).ops(op(13, 2), op(7, 0), op(23), op(24), op(23)).guard(2, 3, 3, 1);
+        check.due("the handler's first frame", q.compute(), 0);
+        check.due("0 there from the first on", q.locals(3), "");
     }
 
     private static void mostOfThePile() {
@@ -194,7 +200,7 @@ public final class WorkTest {
         highest("with a jump to nowhere", 2, new Program(0).ops(op(0), op(0), op(11, 40), op(23)));
         highest("not behind an op that broke a rule", 8, new Program(0).ops(op(0), op(0), op(0), op(0), op(0), op(0), op(0), op(0), op(0)));
         highest("not behind an op after a guard's rule", 0, new Program(0).ops(op(1), op(23)).guard(0, 1, 39, 0));
-        highest("a handler", 1, new Program(0).ops(op(23), op(23)).guard(0, 1, 1, 0));
+        highest("a handler", 1, new Program(0).ops(op(23), op(24), op(23)).guard(0, 1, 1, 0));
         highest("not between", 2, new Program(0).ops(op(1), op(25), op(23)));
     }
 
@@ -208,6 +214,7 @@ public final class WorkTest {
         wanted("arguments", 3, new Program(0, 1, 2).ops(op(23)));
         wanted("an int", 8, new Program(0, 1).ops(op(0), op(3, 7), op(23)));
         wanted("a load below the arguments", 2, new Program(0, 1, 1).ops(op(2, 0), op(23)));
+        wanted("a load of an int", 6, new Program(0).ops(op(2, 5), op(23)));
         wanted("a long", 8, new Program(0).ops(op(1), op(5, 6), op(23)));
         wanted("a load of a long", 6, new Program(0).ops(op(4, 4), op(23)));
         wanted("a reference", 4, new Program(0).ops(op(17), op(7, 3), op(23)));
@@ -253,6 +260,13 @@ public final class WorkTest {
         q.guard(1, 2, 1, 0);
         ends("with a guard", q, 8, 1, 2);
         check.due("with an argument", q.locals(1), "13");
+        Program stale = new Program(0).ops(op(12, 3), op(23), op(23), op(0), op(11, 1));
+        ends("1 is still to be looked at", stale, 5, 4, 3);
+        stale.ops(op(23));
+        ends("not any more before it is met", stale, 0, NONE, 5);
+        Program lower = new Program(0).ops(op(1), op(23));
+        highest("first", 2, lower);
+        highest("less then", 0, lower.guard(0, 1, 39, 0));
         q.x.method(1);
         q.x.op(1, 0, 0, 0);
         q.x.op(1, 23, 0, 0);
