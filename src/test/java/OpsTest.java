@@ -248,6 +248,7 @@ public final class OpsTest {
         leavesMethod(45, of(42), op(6, 0), op(23));
         leavesMethod(0, of(), op(17), op(22, 99));
         leavesMethod(0, of(11), op(6, 0), op(22));
+        leavesMethod(1, of(11), op(6, 0), op(22));
         leavesMethod(0, of(16), op(6, 0), op(22));
         breaksWithResult(1, 2, of(), op(23));
         breaksWithResult(1, 3, of(), op(17), op(23));
