@@ -2,6 +2,16 @@
 final class Check {
     private int right = 0;
     private int wrong = 0;
+    private String about = "";
+
+    /** What the next answers are about: told with those that are not as due. */
+    void about(String what) {
+        about = what.isEmpty() ? "" : what + ": ";
+    }
+
+    int asked() {
+        return right + wrong;
+    }
 
     void due(String call, int got, int want) {
         due(call, Integer.toString(got), Integer.toString(want));
@@ -12,7 +22,7 @@ final class Check {
             right++;
         } else {
             wrong++;
-            System.out.println(call + " answered " + got + ", due is " + want);
+            System.out.println(about + call + " answered " + got + ", due is " + want);
         }
     }
 

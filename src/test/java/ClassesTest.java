@@ -1,8 +1,5 @@
 /** Promises 1 to 4: a new object, cls, fits, join. */
-public final class ClassesTest {
-    private static final int NONE = ChainFrames.NONE, BAD = ChainFrames.BAD, FULL = ChainFrames.FULL;
-    private static final Check check = new Check();
-
+public final class ClassesTest extends Asked {
     public static void main(String[] args) {
         newObject();
         numbersOfClasses();

@@ -1,8 +1,5 @@
 /** Promise 13: form. */
-public final class FormsTest {
-    private static final int NONE = ChainFrames.NONE, BAD = ChainFrames.BAD, NO = ChainFrames.NO;
-    private static final Check check = new Check();
-
+public final class FormsTest extends Asked {
     public static void main(String[] args) {
         refused();
         whatIsTold();
@@ -13,15 +10,6 @@ public final class FormsTest {
         byTheOneBefore();
         byTheBeginning();
         check.end();
-    }
-
-    private static int[] op(int... numbers) {
-        return numbers;
-    }
-
-    private static void form(String name, Program p, int place, int want) {
-        check.due(name + ": compute", p.compute(), 0);
-        check.due(name, p.x.form(p.m, place), want);
     }
 
     private static void refused() {
@@ -62,16 +50,6 @@ public final class FormsTest {
         check.due("of another method", wide.x.form(1, 2), NONE);
     }
 
-    /** The OPS, then a jump to a place that returns: its FORM. */
-    private static void jumped(String name, int want, int[] arguments, int[]... ops) {
-        Program p = new Program(0, arguments).ops(ops).ops(op(12, ops.length + 1), op(23));
-        form(name, p, ops.length + 1, want);
-    }
-
-    private static int[] of(int... kinds) {
-        return kinds;
-    }
-
     private static void same() {
         jumped("same", 0, of(1, 2, 12));
         jumped("same, nothing", 0, of());
@@ -81,16 +59,6 @@ public final class FormsTest {
         jumped("same, two", 8, of(1), op(0), op(0));
         jumped("same, a long and one", 8, of(1), op(1), op(0));
         jumped("same, two longs", 8, of(1), op(1), op(1));
-    }
-
-    /** Of two ways to a place one puts NULLS into LOCALS that were INTS or LONGS: they are 0 there. */
-    private static Program losing(int[] arguments, int... locals) {
-        int end = 2 + 2 * locals.length;
-        Program p = new Program(0, arguments).ops(op(0), op(11, end));
-        for (int i : locals) {
-            p.ops(op(17), op(7, i));
-        }
-        return p.ops(op(23));
     }
 
     private static void less() {

@@ -1,9 +1,5 @@
 /** Promises 5 to 8 and 14: method, argument, op, guard, count; and what undoes THE WORK. */
-public final class MethodsTest {
-    private static final int NONE = ChainFrames.NONE, BAD = ChainFrames.BAD, NO = ChainFrames.NO, FULL = ChainFrames.FULL;
-    private static final int LEAST = Integer.MIN_VALUE, GREATEST = Integer.MAX_VALUE;
-    private static final Check check = new Check();
-
+public final class MethodsTest extends Asked {
     public static void main(String[] args) {
         results();
         arguments();

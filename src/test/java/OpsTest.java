@@ -1,8 +1,5 @@
 /** Promise 9, the OPS one by one: what they take, lay, put, and the RULES 1 to 4 that they break. */
-public final class OpsTest {
-    private static final int NONE = ChainFrames.NONE;
-    private static final Check check = new Check();
-
+public final class OpsTest extends Asked {
     public static void main(String[] args) {
         laying();
         localsOfInts();
@@ -18,34 +15,6 @@ public final class OpsTest {
         dropping();
         tooHigh();
         check.end();
-    }
-
-    private static int[] op(int... numbers) {
-        return numbers;
-    }
-
-    /** What the OPS leave, as "LOCALS | PILE". */
-    private static void leaves(String want, int[] arguments, int[]... ops) {
-        Program p = new Program(0, arguments).ops(ops).ops(op(23));
-        String name = "ops " + java.util.Arrays.deepToString(ops);
-        check.due(name, p.compute(), 0);
-        check.due(name, p.locals(ops.length) + " | " + p.pile(ops.length), want);
-    }
-
-    /** The last of the OPS breaks a RULE. */
-    private static void breaks(int rule, int[] arguments, int[]... ops) {
-        breaksWithResult(0, rule, arguments, ops);
-    }
-
-    private static void breaksWithResult(int result, int rule, int[] arguments, int[]... ops) {
-        Program p = new Program(result, arguments).ops(ops).ops(op(12, ops.length));
-        String name = "ops " + java.util.Arrays.deepToString(ops);
-        check.due(name, p.compute(), rule);
-        check.due(name + " place", p.x.told(p.m, 0), ops.length - 1);
-    }
-
-    private static int[] of(int... kinds) {
-        return kinds;
     }
 
     private static void laying() {
@@ -229,11 +198,6 @@ public final class OpsTest {
         breaks(3, of(), op(13, 2), op(0), op(17), op(21));
     }
 
-    private static void leavesMethod(int result, int[] arguments, int[]... ops) {
-        Program p = new Program(result, arguments).ops(ops);
-        check.due("result " + result + " ops " + java.util.Arrays.deepToString(ops), p.compute(), 0);
-    }
-
     private static void leaving() {
         leavesMethod(0, of(), op(23));
         leavesMethod(0, of(), op(0), op(23));
@@ -279,14 +243,6 @@ public final class OpsTest {
         breaks(2, of(), op(0), op(25));
         breaks(3, of(), op(0), op(0), op(25));
         breaks(3, of(), op(1), op(17), op(25));
-    }
-
-    /** So many INTS on the PILE, then an OP. */
-    private static int[][] above(int ints, int... last) {
-        int[][] ops = new int[ints + 1][];
-        java.util.Arrays.fill(ops, op(0));
-        ops[ints] = last;
-        return ops;
     }
 
     private static void tooHigh() {

@@ -3,8 +3,6 @@
  * Kinds in tests: 12, 13, 14 THINGS of them, 15 of the FACE, 42 to 45 ROWS of them.
  */
 final class Program {
-    static final int[] NO_ARGUMENTS = {};
-
     final ChainFrames x = new ChainFrames();
     final int m;
 

@@ -1,9 +1,5 @@
 /** Promises 9 to 12: compute (RULES 5 to 8, GUARDS, loops), told, frame, height. */
-public final class WorkTest {
-    private static final int NONE = ChainFrames.NONE, BAD = ChainFrames.BAD, NO = ChainFrames.NO;
-    private static final int LEAST = Integer.MIN_VALUE, GREATEST = Integer.MAX_VALUE;
-    private static final Check check = new Check();
-
+public final class WorkTest extends Asked {
     public static void main(String[] args) {
         wrongNumbers();
         behindTheLast();
@@ -21,17 +17,6 @@ public final class WorkTest {
         framesAreTold();
         laterWork();
         check.end();
-    }
-
-    private static int[] op(int... numbers) {
-        return numbers;
-    }
-
-    /** compute, the place, and how often a place was gone through. */
-    private static void ends(String name, Program p, int rule, int place, int passes) {
-        check.due(name + ": compute", p.compute(), rule);
-        check.due(name + ": place", p.x.told(p.m, 0), place);
-        check.due(name + ": passes", p.x.told(p.m, 1), passes);
     }
 
     private static void wrongNumbers() {
