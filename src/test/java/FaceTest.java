@@ -20,6 +20,7 @@ public final class FaceTest {
         publicFace();
         hiddenMembers();
         classesInside();
+        methodsAreShort();
         words();
         check.end();
     }
@@ -50,10 +51,36 @@ public final class FaceTest {
         int shown = 0;
         for (Field f : ChainFrames.class.getDeclaredFields()) {
             shown += isHidden(f) ? 0 : 1;
-            boolean isFixed = !Modifier.isStatic(f.getModifiers()) || Modifier.isFinal(f.getModifiers());
-            check.due("static " + f.getName() + " is final", isFixed ? 1 : 0, 1);
         }
         check.due("fields that are shown", shown, 4);
+        fieldsOf(ChainFrames.class);
+    }
+
+    /** Static ones are constants of int; of the others there are some twenty at the most. */
+    private static void fieldsOf(Class<?> c) {
+        int own = 0;
+        for (Field f : c.getDeclaredFields()) {
+            boolean isStatic = Modifier.isStatic(f.getModifiers());
+            own += isStatic ? 0 : 1;
+            boolean isConstant = Modifier.isFinal(f.getModifiers()) && f.getType() == int.class;
+            check.due(c.getSimpleName() + "'s static " + f.getName() + " is a constant", !isStatic || isConstant ? 1 : 0, 1);
+        }
+        check.due(c.getSimpleName() + " has at most twenty fields", own <= 20 ? 1 : 0, 1);
+    }
+
+    /** Of the way that the file is written in: a method's head and its end stand four signs deeper than its class's. */
+    private static void methodsAreShort() throws IOException {
+        int head = -1;
+        int line = 0;
+        for (String text : Files.readAllLines(SOURCE)) {
+            line++;
+            if (text.matches(" {4}( {4})?\\w[^=]*\\) \\{")) {
+                head = line;
+            } else if (head > 0 && text.matches(" {4}( {4})?\\}")) {
+                check.due("lines of the method at line " + head + " are at most sixty", line - head < 60 ? 1 : 0, 1);
+                head = -1;
+            }
+        }
     }
 
     private static void classesInside() {
@@ -61,6 +88,7 @@ public final class FaceTest {
         check.due("at most twelve classes", inside.length <= 11 ? 1 : 0, 1);
         for (Class<?> c : inside) {
             check.due(c.getSimpleName() + " is static", Modifier.isStatic(c.getModifiers()) ? 1 : 0, 1);
+            fieldsOf(c);
             for (Method m : c.getDeclaredMethods()) {
                 boolean isFace = Arrays.stream(FACE).anyMatch(name -> name.startsWith(m.getName() + " "));
                 check.due(c.getSimpleName() + "." + m.getName() + " bears a name of the face", isFace ? 1 : 0, 0);
